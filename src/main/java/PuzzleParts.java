@@ -190,13 +190,7 @@ public final class PuzzleParts {
 
     public int mirror(int part) {
         Board board = partAt(part);
-        if (board == null) {
-            return refuse(NOBODY);
-        }
-        if (partCount >= MOST_PARTS) {
-            return refuse(ROOM);
-        }
-        return keep(board.mirrored());
+        return board == null ? refuse(NOBODY) : keep(board.mirrored());
     }
 
     public int less(int part, int xy) {
@@ -206,9 +200,6 @@ public final class PuzzleParts {
         }
         if (board.codeAt(xy / 10, xy % 10) != Board.OPEN) {
             return refuse(STATE);
-        }
-        if (partCount >= MOST_PARTS) {
-            return refuse(ROOM);
         }
         return keep(board.without(Board.bitOf(xy / 10, xy % 10)));
     }
@@ -220,9 +211,6 @@ public final class PuzzleParts {
         }
         if (!isPermutation(digits, board.faces)) {
             return refuse(STATE);
-        }
-        if (partCount >= MOST_PARTS) {
-            return refuse(ROOM);
         }
         return keep(board.renamed(digits));
     }
@@ -280,9 +268,6 @@ public final class PuzzleParts {
     // ---- NETS ----
 
     public int net() {
-        if (netCount >= MOST_NETS) {
-            return refuse(ROOM);
-        }
         return keepNet(new Net());
     }
 
@@ -391,7 +376,7 @@ public final class PuzzleParts {
         if (floor.laidCount == 0 || floor.firstOverlap() != NONE || floor.firstLeak() != NONE) {
             return refuse(STATE);
         }
-        if (netCount >= MOST_NETS || floor.laidCount > Net.MOST_PIECES || floor.meetings() > Net.MOST_LINKS) {
+        if (floor.laidCount > Net.MOST_PIECES || floor.meetings() > Net.MOST_LINKS) {
             return refuse(ROOM);
         }
         return keepNet(floor.asNet());
@@ -448,8 +433,11 @@ public final class PuzzleParts {
         return number >= 0 && number < formulaCount;
     }
 
-    /** The caller has seen that there is room. */
+    /** Its number, or the REFUSAL, if there is no room. */
     private int keep(Board board) {
+        if (partCount >= MOST_PARTS) {
+            return refuse(ROOM);
+        }
         board.countTilings();
         parts[partCount] = board;
         partCount++;
@@ -457,12 +445,18 @@ public final class PuzzleParts {
     }
 
     private int keepNet(Net made) {
+        if (netCount >= MOST_NETS) {
+            return refuse(ROOM);
+        }
         nets[netCount] = made;
         netCount++;
         return netCount - 1;
     }
 
-    /** Letters above the FACES are false in all STATES below 2 to the power of FACES: the low bits tell MEANS. */
+    /**
+     * MEANS of a FORMULA that is there. Letters of no FACE are false in all STATES below 2 to the power of FACES,
+     * so that the low bits tell it.
+     */
     private long meaning(int formula, int faces) {
         return formulas[formula] & ((1L << (1 << faces)) - 1L);
     }

@@ -62,6 +62,8 @@ public final class FindTest {
         find(3, 3, "a&b&c", "", 0, 10, 20);
         find(2, 2, "0", "", 0, 11);
         find(3, 2, "0", "0.#/...", 0);
+        find(5, 1, "a&b", "0#..1", 0, 40);
+        find(1, 4, "a", "././0/#", 2);
     }
 
     private static void leastNumber() {

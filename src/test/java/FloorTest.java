@@ -201,6 +201,18 @@ public final class FloorTest {
         x.lay(DOT, 0, 11);
         DUE.is("no leak across the edge", x.leak(), -9);
         x.clear();
+        x.lay(DOT, 0, 5);
+        x.lay(ONE, 1, 5);
+        DUE.is("leak of an OPEN CELL to the left of a FACE", x.leak(), 0);
+        x.clear();
+        x.lay(ONE, 0, 5);
+        x.lay(DOT, 1, 5);
+        DUE.is("leak of an OPEN CELL to the right of a FACE", x.leak(), 1);
+        x.clear();
+        x.lay(ONE, 0, 5);
+        x.lay(DOT, 0, 6);
+        DUE.is("leak of an OPEN CELL below a FACE", x.leak(), 1);
+        x.clear();
         x.lay(PAIR, 10, 11);
         x.lay(DOT, 11, 10);
         DUE.is("leak in the corner", x.leak(), 0);

@@ -111,7 +111,7 @@ public final class LanguageTest {
         holds("no text in the source", code.indexOf('"') < 0);
         holds("no static block", !Pattern.compile("static\\s*\\{").matcher(code).find());
         holds("no endless for", !Pattern.compile("for\\s*\\([^;]*;\\s*;").matcher(code).find());
-        for (String line : code.split("\n")) {
+        for (String line : new String(bytes, StandardCharsets.US_ASCII).split("\n")) {
             holds("no line beyond 120 signs: " + line, line.length() <= 120);
         }
     }

@@ -24,7 +24,7 @@ public final class NetTest {
 
     private static PuzzleParts withParts() {
         PuzzleParts x = new PuzzleParts();
-        String[] texts = {"0.1", "01", "012/...", "..", "01234", "."};
+        String[] texts = {"0.1", "01", "012/...", "..", "01234", ".", "0"};
         for (String text : texts) {
             Due.part(x, text);
         }
@@ -41,13 +41,13 @@ public final class NetTest {
         DUE.is("count(2)", x.count(2), 6);
         DUE.is("piece(6, 0)", x.piece(6, XOR), -1);
         DUE.is("piece(-1, 0)", x.piece(-1, XOR), -1);
-        DUE.is("piece(0, 6)", x.piece(0, 6), -1);
+        DUE.is("piece(0, 7)", x.piece(0, 7), -1);
         DUE.is("piece(0, -1)", x.piece(0, -1), -1);
         for (int i = 0; i < 8; i++) {
             DUE.is("piece(0, 0)", x.piece(0, XOR), i);
         }
         DUE.is("piece of 8", x.piece(0, XOR), -6);
-        DUE.is("piece of 8, no PART", x.piece(0, 6), -1);
+        DUE.is("piece of 8, no PART", x.piece(0, 7), -1);
         DUE.is("piece(1, 1)", x.piece(1, SAME), 0);
         DUE.is("count(11)", x.count(11), 6);
         DUE.is("count(16)", x.count(16), 2);
@@ -99,9 +99,35 @@ public final class NetTest {
         DUE.is("free(0, 0)", x.free(0, 0), 22);
         DUE.is("free(0, 5)", x.free(0, 5), 54);
         DUE.is("free(0, 6)", x.free(0, 6), -9);
-        DUE.is("netLets(0, 63)", x.netLets(0, 63), 1);
+        // what of 01234 is let: the zeros stand in runs of even length
+        for (int state = 0; state < 64; state++) {
+            int want = isLetByRows(state) ? 1 : 0;
+            DUE.is("netLets(0, " + state + ") of 12 LINKS", x.netLets(0, state), want);
+        }
         DUE.is("netLets(0, 64)", x.netLets(0, 64), -1);
         DUE.is("count(16)", x.count(16), 1);
+    }
+
+    /** Six of 01234 in pairs: two pairs are of one STATE whole, the third one by its FACES 0 and 1 (22, 23, 24; 52 ..). */
+    private static boolean isLetByRows(int state) {
+        for (int both = 0; both < 4; both++) {
+            if (inPairs(both | (state & 7) << 2) && inPairs(both | (state >> 3) << 2)) {
+                return true;
+            }
+        }
+        return false;
+    }
+
+    private static boolean inPairs(int state) {
+        int run = 0;
+        for (int i = 0; i <= 5; i++) {
+            boolean ends = i == 5 || (state >> i & 1) != 0;
+            if (ends && run % 2 != 0) {
+                return false;
+            }
+            run = ends ? 0 : run + 1;
+        }
+        return true;
     }
 
     private static void freeOnes() {
@@ -227,6 +253,12 @@ public final class NetTest {
         x.link(0, 0, 20);
         DUE.is("howMany of 10 FREE", x.howMany(0, 1023), 1);
         DUE.is("count(13)", x.count(13), 4);
+        x.net();
+        x.piece(1, FIVE);
+        x.piece(1, FIVE);
+        x.piece(1, 6);
+        DUE.is("netLets of 11 FREE", x.netLets(1, 0), -3);
+        DUE.is("howMany of 11 FREE", x.howMany(1, 0), -3);
     }
 
     private static void doing() {
