@@ -87,8 +87,10 @@ public final class NetTest {
             x.piece(0, FIVE);
         }
         for (int i = 0; i < 12; i++) {
-            int a = 10 * (i / 5) + i % 5;
-            int b = 10 * (3 + i / 5) + i % 5;
+            // the last LINK is of FACE 0, whose STATE may have to be another than that of the first FREE one
+            int face = i < 10 ? i % 5 : 11 - i;
+            int a = 10 * (i / 5) + face;
+            int b = 10 * (3 + i / 5) + face;
             DUE.is("link(0, " + a + ", " + b + ")", x.link(0, a, b), i + 1);
         }
         DUE.is("link of 12", x.link(0, 23, 53), -6);
