@@ -16,6 +16,14 @@ final class Due {
         }
     }
 
+    void same(String what, String got, String want) {
+        calls++;
+        if (!got.equals(want)) {
+            wrong++;
+            System.out.println(test + ": " + what + " is " + got + ", due is " + want);
+        }
+    }
+
     /** Closes a test: exit code 1 if one answer was wrong, or if there was none. */
     void end() {
         System.out.println(test + ": " + calls + " answers, " + wrong + " wrong");
@@ -65,11 +73,6 @@ final class Due {
     }
 
     void shows(PuzzleParts x, int part, String want) {
-        calls++;
-        String got = shown(x, part);
-        if (!got.equals(want)) {
-            wrong++;
-            System.out.println(test + ": part " + part + " is " + got + ", due is " + want);
-        }
+        same("part " + part, shown(x, part), want);
     }
 }
