@@ -5,6 +5,8 @@ public final class CountTest {
     public static void main(String[] args) {
         counts();
         refusalsOfAllCalls();
+        full();
+        allOthers();
         DUE.end();
     }
 
@@ -76,5 +78,50 @@ public final class CountTest {
         x.less(0, 0);
         x.floorNet();
         all(x, "after STATE", 1, 0, 0, 0, 0, 0, 9, 0, 3, 2, 0, 1);
+    }
+
+    /** Each at the greatest number that the document names, one below it, and after one more that is refused. */
+    private static void full() {
+        PuzzleParts x = new PuzzleParts();
+        Edge.fillParts(x, 23);
+        Edge.fillFormulas(x, 19);
+        Edge.fillNets(x, 5);
+        for (int i = 0; i < 9; i++) {
+            x.lay(0, 0, 0);
+        }
+        Edge.fillTape(x, 39);
+        x.put(0);
+        x.put(0);
+        all(x, "one below", 23, 19, 5, 9, 39, 2, 0, 0, 0, 0, 0, 0);
+        x.mirror(0);
+        x.net();
+        x.lay(0, 0, 0);
+        x.put(0);
+        x.feed(1, 'a');
+        all(x, "when full, but of FORMULAS", 24, 19, 6, 10, 40, 3, 0, 0, 0, 0, 0, 0);
+        x.mirror(0);
+        x.part();
+        x.net();
+        x.lay(0, 0, 0);
+        x.put(0);
+        x.feed(1, 'a');
+        all(x, "when all are refused", 24, 19, 6, 10, 40, 3, 0, 0, 0, 0, 0, 6);
+        x.formula();
+        x.feed(1, 'a');
+        x.formula();
+        x.formula();
+        all(x, "when full of FORMULAS", 24, 20, 6, 10, 0, 3, 0, 0, 0, 0, 0, 7);
+        x.clear();
+        all(x, "after clear()", 24, 20, 6, 0, 0, 3, 0, 0, 0, 0, 0, 7);
+    }
+
+    /** "-9 for another what": just beside 0 .. 5 and 11 .. 16, and far from them; it is no REFUSAL. */
+    private static void allOthers() {
+        for (int what = -30; what <= 60; what++) {
+            PuzzleParts x = new PuzzleParts();
+            boolean told = what >= 0 && what <= 5 || what >= 11 && what <= 16;
+            DUE.is("count(" + what + ")", x.count(what), told ? 0 : -9);
+            all(x, "after count(" + what + ")", 0, 0, 0, 0, 0, 0, 0, 0, 0, 0, 0, 0);
+        }
     }
 }

@@ -263,6 +263,7 @@ public final class EdgesOfFindTest {
         return "";
     }
 
+    /** "letters of no FACE false": those beyond THE ROW, too. */
     private static void lettersOfNoFace() {
         found("a|b|c|d|e", 1, 1, "0", 0);
         found("!a&!b&!e", 2, 1, "0.", 0);

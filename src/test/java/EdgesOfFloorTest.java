@@ -166,6 +166,7 @@ public final class EdgesOfFloorTest {
         DUE.is("overlap: 03 ahead of 04", with(TWO, 0, 0, DOT, 5, 5, DOT, 6, 6, DOT, 1, 0, DOT, 0, 0).overlap(), 3);
     }
 
+    /** "WIDE and HIGH 12": the corners are CELLS as others are. */
     private static void overlapInCorners() {
         int[][] corners = {{0, 0}, {11, 0}, {0, 11}, {11, 11}};
         for (int[] at : corners) {
@@ -248,6 +249,7 @@ public final class EdgesOfFloorTest {
         DUE.is("meets on the same CELL", same.meets(0, 0), -9);
     }
 
+    /** "-9 nothing. -1 either." */
     private static void meetsRefused() {
         PuzzleParts x = with(TWO, 0, 0, DOT, 5, 5, BLOCKED, 7, 7);
         for (int none : new int[] {-1, 3, 10, LEAST, GREATEST}) {
@@ -331,6 +333,7 @@ public final class EdgesOfFloorTest {
         DUE.is("leak of the one with the OPEN CELL", with(ONE, 1, 0, DOT, 0, 0).leak(), 1);
     }
 
+    /** "beside": the last CELL of a line is not beside the first of the next one. */
     private static void leakBeyondEdges() {
         DUE.is("no leak across the right edge", with(DOT, 11, 3, DOT, 0, 4).leak(), -9);
         DUE.is("no leak across the left edge", with(DOT, 0, 4, DOT, 11, 3, DOT, 11, 5).leak(), -9);
@@ -452,6 +455,7 @@ public final class EdgesOfFloorTest {
         }
     }
 
+    /** "-6 (6": six NETS of one FLOOR, and what is LAID stays. */
     private static void sixNets() {
         PuzzleParts x = with(TWO, 0, 0);
         for (int net = 0; net < 6; net++) {

@@ -58,6 +58,7 @@ public final class EdgesOfFormulasTest {
         }
     }
 
+    /** A UNIT lacks: an operand ends it, "!" and "(" go on, any other byte can not stand. */
     private static void byteAfterOperator() {
         String[] starts = {"!", "(", "a&", "a|", "!(", "(!", "(a)|", "!!"};
         for (String start : starts) {

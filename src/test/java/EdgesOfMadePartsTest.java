@@ -125,6 +125,7 @@ public final class EdgesOfMadePartsTest {
         DUE.is("count(0)", x.count(0), 24);
     }
 
+    /** "MIRRORED (x goes to WIDE less 1 less x)": 5 WIDE, too. */
     private static void mirrorsOfAllSizes() {
         for (int wide = 1; wide <= 5; wide++) {
             for (int high = 1; high <= 4; high++) {
@@ -140,6 +141,7 @@ public final class EdgesOfMadePartsTest {
         }
     }
 
+    /** "It, MIRRORED. -1; -6." */
     private static void mirrorsRefused() {
         PuzzleParts x = new PuzzleParts();
         DUE.is("mirror(0) without PARTS", x.mirror(0), -1);
@@ -334,6 +336,7 @@ public final class EdgesOfMadePartsTest {
         alike(".0../..../..../1...", "..../...0/..../1...", 0);
     }
 
+    /** "ALIKE: 1, 0. -1." */
     private static void alikeRefused() {
         PuzzleParts x = new PuzzleParts();
         DUE.is("alike(0, 0) without PARTS", x.alike(0, 0), -1);
@@ -379,6 +382,7 @@ public final class EdgesOfMadePartsTest {
         needless("0../#..", 0);
     }
 
+    /** "NEEDLESS. -1." */
     private static void needlessRefused() {
         PuzzleParts x = new PuzzleParts();
         for (int none : new int[] {-1, 0, 24, LEAST, GREATEST}) {

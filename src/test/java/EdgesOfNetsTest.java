@@ -91,6 +91,7 @@ public final class EdgesOfNetsTest {
         DUE.is("piece(6, 1)", x.piece(6, ONE), -1);
     }
 
+    /** "-1 either; -6 8", and PART 23, the last there can be. */
     private static void pieceRefused() {
         PuzzleParts empty = new PuzzleParts();
         DUE.is("piece(0, 0) without both", empty.piece(0, 0), -1);
@@ -194,6 +195,7 @@ public final class EdgesOfNetsTest {
         DUE.is("the first LINK of another NET", x.link(1, 0, 1), 1);
     }
 
+    /** "-1 any; -3 one is in a LINK, or both are one": in this order. */
     private static void linkRefusedInOrder() {
         PuzzleParts x = with(TWO);
         x.link(0, 0, 1);

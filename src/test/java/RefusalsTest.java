@@ -99,6 +99,7 @@ public final class RefusalsTest {
         EDGE.refused(name, RefusalsTest::some, call, number);
     }
 
+    /** Promises 2 to 4. */
     private static void texts() {
         refused("feed(0, ..)", x -> x.feed(0, 46), -4);
         refused("feed(9, ..)", x -> x.feed(9, 46), -6);
@@ -118,6 +119,7 @@ public final class RefusalsTest {
         refused("partOf(0, -1)", x -> x.partOf(0, -1), -2);
     }
 
+    /** Promises 10 and 11. */
     private static void formulas() {
         EDGE.refused("formula() of 20", full("FORMULAS"), PuzzleParts::formula, -6);
         EDGE.refused("formula() of 20, a FAULT", x -> {
@@ -132,6 +134,7 @@ public final class RefusalsTest {
         EDGE.refusedLong("means(0, 6)", RefusalsTest::some, x -> x.means(0, 6), -6);
     }
 
+    /** Promises 5 to 9, 12, 13, 18 and 19. */
     private static void tellings() {
         refused("cell(5, 0)", x -> x.cell(5, 0), -1);
         refused("cell(0, 30)", x -> x.cell(0, 30), -1);
@@ -153,6 +156,7 @@ public final class RefusalsTest {
         refused("needless(5)", x -> x.needless(5), -1);
     }
 
+    /** Promises 14 to 17. */
     private static void madeParts() {
         refused("turn(5)", x -> x.turn(5), -1);
         refused("turn of 5 WIDE", x -> x.turn(1), -3);
@@ -178,6 +182,7 @@ public final class RefusalsTest {
         EDGE.refused("rename of 24, no PART", full("PARTS"), x -> x.rename(24, 11), -1);
     }
 
+    /** Promises 20 and 21. */
     private static void rowAndFind() {
         refused("put(-1)", x -> x.put(-1), -4);
         refused("put(100)", x -> x.put(100), -6);
@@ -209,6 +214,7 @@ public final class RefusalsTest {
         EDGE.refused("find of 24, no FORMULA", full("PARTS"), x -> x.find(3, 1, 2), -1);
     }
 
+    /** Promises 22, 23, 25 and 28. */
     private static void nets() {
         EDGE.refused("net() of 6", full("NETS"), PuzzleParts::net, -6);
         refused("piece(2, 0)", x -> x.piece(2, 0), -1);
@@ -223,6 +229,7 @@ public final class RefusalsTest {
         refused("netDoes(0, 2)", x -> x.netDoes(0, 2), -1);
     }
 
+    /** Promise 24. */
     private static void links() {
         refused("link(2, 0, 11)", x -> x.link(2, 0, 11), -1);
         refused("link(0, 2, 11)", x -> x.link(0, 2, 11), -1);
@@ -239,6 +246,7 @@ public final class RefusalsTest {
         EDGE.refused("link of 12, no NET", full("LINKS"), x -> x.link(2, 22, 23), -1);
     }
 
+    /** Promises 26 and 27. */
     private static void statesOfNets() {
         refused("netLets(2, 0)", x -> x.netLets(2, 0), -1);
         refused("netLets(0, 4)", x -> x.netLets(0, 4), -1);
@@ -254,6 +262,7 @@ public final class RefusalsTest {
         EDGE.refused("howMany of 11 FREE, no NET", full("FREE"), x -> x.howMany(2, 2048), -1);
     }
 
+    /** Promises 29 and 31. */
     private static void floor() {
         refused("lay(5, 0, 0)", x -> x.lay(5, 0, 0), -1);
         refused("lay(5, -1, 12)", x -> x.lay(5, -1, 12), -1);
@@ -271,6 +280,7 @@ public final class RefusalsTest {
         refused("meets(-1, 0)", x -> x.meets(-1, 0), -1);
     }
 
+    /** Promise 33. */
     private static void floorNets() {
         EDGE.refused("floorNet of nothing", NEW, PuzzleParts::floorNet, -3);
         EDGE.refused("floorNet with OVERLAP", x -> {
